@@ -29,13 +29,15 @@ public final class PutWall {
     private static final long SEED_STEP = 12345L;
     private static final long SEED_MODULUS = 2147483648L;
     private static final int SEED_LOW_PART = 65536;
+    private static final int LAST_SEED = 2147483647;
 
     /** An order with its lines, one a good; its methods take goods that are in their range. */
     private static final class Order {
         final int number;
         int state = OPEN;
         int place = NONE;
-        // A line wants at least one piece, so 0 stands for "no line of this good".
+        // A line wants at least one piece, so 0 stands for "no line of this good"; the day of a
+        // line that was taken away may stay, as only an OPEN order, which has no days, gets lines.
         final int[] wanted = new int[GOODS];
         final int[] present = new int[GOODS];
         final int[] deadline = new int[GOODS];
@@ -207,9 +209,6 @@ public final class PutWall {
             return false;
         }
         asked.wanted[good] = n;
-        if (n == 0) {
-            asked.deadline[good] = NONE;
-        }
         return true;
     }
 
@@ -249,7 +248,7 @@ public final class PutWall {
     }
 
     public void seed(int x) throws IllegalArgumentException {
-        requireRange(x, 0, Integer.MAX_VALUE);
+        requireRange(x, 0, LAST_SEED);
         seedNow = x;
     }
 
