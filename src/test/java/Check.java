@@ -1,3 +1,6 @@
+import java.util.Arrays;
+import java.util.List;
+import java.util.Map;
 import java.util.function.Supplier;
 
 /** Counts the calls that do not answer what is due, and prints each. */
@@ -34,6 +37,46 @@ final class Check {
             asked.run();
             return "done";
         });
+    }
+
+    /**
+     * A run of calls on a wall of so many cells. A line is "call -> answer"; or calls with ';'
+     * between them, of which it is only asked that none is refused.
+     */
+    void story(String name, int cells, String text) {
+        topic(name);
+        Run run = new Run(cells);
+        for (String line : text.strip().split("\\s*\n\\s*")) {
+            int arrow = line.indexOf(" -> ");
+            if (arrow < 0) {
+                run.given(line.split("; "));
+            } else {
+                String call = line.substring(0, arrow);
+                due(line.substring(arrow + 4), call, () -> run.answer(call));
+            }
+        }
+    }
+
+    /** The call answers this, and of all that later calls answer only the named ones differ. */
+    void changesOnly(Scene scene, String want, String call, String... changed) {
+        due(want, call, () -> scene.run().answer(call));
+        Map<String, String> without = scene.later();
+        Map<String, String> with = scene.later(call);
+        List<String> mayDiffer = Arrays.asList(changed);
+        for (Map.Entry<String, String> entry : without.entrySet()) {
+            String later = entry.getKey();
+            boolean same = entry.getValue().equals(with.get(later));
+            if (same == mayDiffer.contains(later)) {
+                fail("behind " + call + " answered " + later + " " + with.get(later)
+                        + ", without it " + entry.getValue());
+            }
+        }
+    }
+
+    void changesNothing(Scene scene, String want, String... calls) {
+        for (String call : calls) {
+            changesOnly(scene, want, call);
+        }
     }
 
     void fail(String text) {
